@@ -1,0 +1,54 @@
+/** Compares answers with those that are due, prints the others and ends the program with 1 if there were any. */
+final class Check {
+    private final String subject;
+    private int asked = 0;
+    private int wrong = 0;
+
+    Check(String subject) {
+        this.subject = subject;
+    }
+
+    void due(String call, long want, long got) {
+        asked++;
+        if (got != want) {
+            tell(call + " answered " + got + ", due is " + want);
+        }
+    }
+
+    void due(String call, boolean want, boolean got) {
+        due(call, want ? 1 : 0, got ? 1 : 0);
+    }
+
+    void illegalArgument(String call, Runnable run) {
+        throwsDue(call, IllegalArgumentException.class, run);
+    }
+
+    void illegalState(String call, Runnable run) {
+        throwsDue(call, IllegalStateException.class, run);
+    }
+
+    private void throwsDue(String call, Class<?> want, Runnable run) {
+        asked++;
+        Class<?> got = null;
+        try {
+            run.run();
+        } catch (RuntimeException e) {
+            got = e.getClass();
+        }
+        if (got != want) {
+            tell(call + " threw " + got + ", due is " + want);
+        }
+    }
+
+    private void tell(String text) {
+        wrong++;
+        System.out.println(subject + ": " + text);
+    }
+
+    void end() {
+        System.out.println(subject + ": " + asked + " answers, " + wrong + " not as due");
+        if (wrong != 0 || asked == 0) {
+            System.exit(1);
+        }
+    }
+}
