@@ -5,6 +5,7 @@ public final class ThinTest {
     public static void main(String[] args) {
         letsEveryKthGo();
         packsAnew();
+        writesOnlyFilledBlocks();
         leavesEmptyAndOpenOnesAlone();
         liesBesideTheOldOnes();
         isFull();
@@ -62,6 +63,22 @@ public final class ThinTest {
         CHECK.due("next time in front", 4, disk.entry(0, 0, 1));
         disk.thin(0, 1);
         CHECK.due("free() with the open one alone", 35, disk.free());
+    }
+
+    private static void writesOnlyFilledBlocks() {
+        LogDisk disk = new LogDisk(3, 64);
+        int[] sizes = {10, 2044, 1020, 1020, 2044, 1020, 3068};
+        for (int i = 0; i < sizes.length; i++) {
+            disk.append(3, sizes[i], i);
+        }
+        int writes = disk.writes();
+        CHECK.due("segments of three blocks", 1, disk.thin(3, 1000));
+        CHECK.due("writes() of 3 + 3 + 1 blocks and a head", 8, disk.writes() - writes);
+        CHECK.due("their segments and the open one", 4, disk.log(3, 1));
+        writes = disk.writes();
+        CHECK.due("again by 2", 3, disk.thin(3, 2));
+        CHECK.due("writes() of 3 blocks and a head", 4, disk.writes() - writes);
+        CHECK.due("one segment and the open one", 2, disk.log(3, 1));
     }
 
     private static void leavesEmptyAndOpenOnesAlone() {
