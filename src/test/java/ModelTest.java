@@ -83,7 +83,7 @@ public final class ModelTest {
         int entries = model.isDown() || log < 0 || log > 3 ? 3 : model.log(log, 0);
         int i = draw(20) == 0 ? draw(600) - 2 : draw(Math.max(1, entries));
         int what = draw(30) == 0 ? draw(8) - 2 : draw(kind < 64 ? 4 : 3);
-        int k = draw(draw(3) == 0 ? 20000 : 200) - 1;
+        int k = draw(8) == 0 ? draw(20000) - 1 : draw(Math.max(1, bytesOf(log, i)));
         if (kind < 64) {
             same(number, "log(" + log + ", " + what + ")", () -> disk.log(log, what), () -> model.log(log, what));
         } else if (kind < 78) {
@@ -101,6 +101,11 @@ public final class ModelTest {
         }
     }
 
+    private int bytesOf(int log, int i) {
+        boolean there = !model.isDown() && log >= 0 && log < 4 && i >= 0 && i < model.log(log, 0);
+        return there ? model.entry(log, i, 0) : 0;
+    }
+
     private void same(int number, String call, IntSupplier ofDisk, IntSupplier ofModel) {
         CHECK.due(name + number + ": " + call, answer(ofModel), answer(ofDisk));
     }
@@ -110,7 +115,7 @@ public final class ModelTest {
             return call.getAsInt();
         } catch (RuntimeException e) {
             // Far from every int, so that an exception equals just an exception of the same class.
-            return Long.MIN_VALUE + e.getClass().getName().hashCode();
+            return (1L << 40) + e.getClass().getName().hashCode();
         }
     }
 }
