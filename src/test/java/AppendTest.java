@@ -11,11 +11,15 @@ public final class AppendTest {
         isFullInLog();
         diskTooSmallForSegment();
         isCut();
-        refusesWrongInput();
+        lowestEightBits();
+        bytesFrom1To20000();
+        noSuchLog();
+        whileDown();
         CHECK.end();
     }
 
     private static void countsBlocksWritten() {
+        CHECK.sentence("how many blocks were written");
         LogDisk disk = new LogDisk(4, 64);
         CHECK.due("to the end of block 0", 2, disk.append(0, 1020, 0));
         CHECK.due("one byte over block 1", 3, disk.append(0, 1021, 0));
@@ -26,6 +30,7 @@ public final class AppendTest {
     }
 
     private static void liesBehindOrInNewSegment() {
+        CHECK.sentence("comes into a log");
         LogDisk disk = new LogDisk(2, 64);
         disk.append(0, 1000, 0);
         disk.append(1, 10, 0);
@@ -42,6 +47,7 @@ public final class AppendTest {
     }
 
     private static void fillsGapInFront() {
+        CHECK.sentence("comes into a log");
         LogDisk disk = new LogDisk(2, 16);
         for (int i = 0; i < 3; i++) {
             disk.append(0, 2044, i);
@@ -56,6 +62,7 @@ public final class AppendTest {
     }
 
     private static void isLarge() {
+        CHECK.sentence("LARGE");
         LogDisk disk = new LogDisk(1, 16);
         CHECK.due("1021 into 1024", LogDisk.LARGE, disk.append(0, 1021, 0));
         CHECK.due("20000 into 1024", LogDisk.LARGE, disk.append(0, 20000, 0));
@@ -71,6 +78,7 @@ public final class AppendTest {
     }
 
     private static void isFullOnDisk() {
+        CHECK.sentence("FULL");
         LogDisk disk = new LogDisk(5, 16);
         disk.append(0, 5116, 1);
         disk.append(1, 5000, 2);
@@ -86,6 +94,7 @@ public final class AppendTest {
     }
 
     private static void isFullInLog() {
+        CHECK.sentence("FULL");
         LogDisk disk = new LogDisk(1, 256);
         for (int i = 0; i < 59; i++) {
             disk.append(3, 1020, i);
@@ -99,12 +108,14 @@ public final class AppendTest {
     }
 
     private static void diskTooSmallForSegment() {
+        CHECK.sentence("LARGE, FULL");
         LogDisk disk = new LogDisk(13, 16);
         CHECK.due("where no segment can lie", LogDisk.FULL, disk.append(0, 1, 0));
         CHECK.due("a large one there", LogDisk.LARGE, disk.append(0, 20000, 0));
     }
 
     private static void isCut() {
+        CHECK.sentence("CUT");
         for (int power = 1; power <= 4; power++) {
             LogDisk disk = new LogDisk(3, 32);
             disk.append(0, 1000, 7);
@@ -125,22 +136,55 @@ public final class AppendTest {
         CHECK.due("free() behind a cut", 28, disk.free());
     }
 
-    private static void refusesWrongInput() {
+    private static void lowestEightBits() {
+        CHECK.sentence("An entry of n bytes, b, b + 1, and so on (their lowest eight bits)");
+        int[] firsts = {0, 1, 254, 255, 256, 257, -1, -2, -256, -257, Integer.MAX_VALUE, Integer.MIN_VALUE};
+        for (int b : firsts) {
+            LogDisk disk = new LogDisk(1, 16);
+            disk.append(0, 600, b);
+            for (int k = 0; k < 600; k++) {
+                CHECK.due("byte " + k + " from " + b, Math.floorMod((long) b + k, 256L), disk.byteAt(0, 0, k));
+            }
+        }
+    }
+
+    private static void bytesFrom1To20000() {
+        CHECK.sentence("Illegal argument: n is not 1 .. 20000");
         LogDisk disk = new LogDisk(16, 256);
-        CHECK.illegalArgument("log -1", () -> disk.append(-1, 1, 0));
-        CHECK.illegalArgument("log 4", () -> disk.append(4, 1, 0));
-        CHECK.illegalArgument("log MIN", () -> disk.append(Integer.MIN_VALUE, 1, 0));
-        CHECK.illegalArgument("n 0", () -> disk.append(0, 0, 0));
-        CHECK.illegalArgument("n -1", () -> disk.append(0, -1, 0));
-        CHECK.illegalArgument("n 20001", () -> disk.append(0, 20001, 0));
-        CHECK.illegalArgument("n MAX", () -> disk.append(0, Integer.MAX_VALUE, 0));
-        CHECK.due("n 20000", LogDisk.LARGE, disk.append(0, 20000, 0));
+        for (int n : new int[] {Integer.MIN_VALUE, -1, 0, 20001, 20002, Integer.MAX_VALUE - 3, Integer.MAX_VALUE}) {
+            CHECK.illegalArgument("n " + n, () -> disk.append(0, n, 0));
+        }
         CHECK.due("n 1", 2, disk.append(0, 1, 0));
+        CHECK.due("n 2", 2, disk.append(0, 2, 0));
+        CHECK.due("n 16380", 17, disk.append(0, 16380, 0));
+        CHECK.due("n 16381", LogDisk.LARGE, disk.append(0, 16381, 0));
+        CHECK.due("n 19999", LogDisk.LARGE, disk.append(0, 19999, 0));
+        CHECK.due("n 20000", LogDisk.LARGE, disk.append(0, 20000, 0));
+        LogDisk narrow = new LogDisk(1, 16);
+        CHECK.illegalArgument("n 20001 where 1021 is too large", () -> narrow.append(0, 20001, 0));
+    }
+
+    private static void noSuchLog() {
+        CHECK.sentence("Illegal argument");
+        LogDisk disk = new LogDisk(16, 256);
+        for (int log : new int[] {Integer.MIN_VALUE, -1, 4, Integer.MAX_VALUE}) {
+            CHECK.illegalArgument("log " + log, () -> disk.append(log, 1, 0));
+            CHECK.illegalArgument("log " + log + " with what is too large", () -> disk.append(log, 20000, 0));
+        }
+        CHECK.due("writes()", 0, disk.writes());
+    }
+
+    private static void whileDown() {
+        CHECK.sentence("illegal state");
+        LogDisk disk = new LogDisk(16, 256);
+        disk.append(0, 1, 0);
         disk.crash(0);
         CHECK.illegalState("while down", () -> disk.append(0, 1, 0));
         CHECK.illegalState("a large one while down", () -> disk.append(0, 20000, 0));
         CHECK.illegalArgument("log 4 while down", () -> disk.append(4, 1, 0));
         CHECK.illegalArgument("n 0 while down", () -> disk.append(0, 0, 0));
+        CHECK.illegalArgument("n 20001 while down", () -> disk.append(0, 20001, 0));
         CHECK.due("writes()", 2, disk.writes());
+        CHECK.due("recover()", 1, disk.recover());
     }
 }

@@ -4,12 +4,18 @@ public final class LogTest {
 
     public static void main(String[] args) {
         tellsOfEachLog();
-        countsOnlyWhatCame();
-        refusesWrongInput();
+        howManyEntries();
+        howManySegments();
+        bytesThatEntriesTake();
+        howManyEverCame();
+        whatIsNoneOfThese();
+        noSuchLog();
+        whileDown();
         CHECK.end();
     }
 
     private static void tellsOfEachLog() {
+        CHECK.sentence("Of a log");
         LogDisk disk = new LogDisk(1, 64);
         for (int log = 0; log < 4; log++) {
             for (int i = 0; i < 3 * log; i++) {
@@ -25,40 +31,94 @@ public final class LogTest {
         }
     }
 
-    private static void countsOnlyWhatCame() {
+    /** Six entries that take 512 bytes each, two a segment. */
+    private static LogDisk sixEntries() {
         LogDisk disk = new LogDisk(1, 16);
         for (int i = 0; i < 6; i++) {
             disk.append(2, 508, i);
         }
-        disk.append(2, 1021, 0);
-        disk.thin(2, 2);
-        CHECK.due("came behind thinning", 6, disk.log(2, 3));
-        disk.retain(2, 0);
-        CHECK.due("came behind retention", 6, disk.log(2, 3));
-        disk.crash(1);
-        disk.append(2, 10, 0);
-        disk.recover();
-        CHECK.due("came behind a cut before the head", 6, disk.log(2, 3));
-        disk.crash(2);
-        disk.append(2, 10, 0);
-        disk.recover();
-        CHECK.due("came behind a cut at the head", 7, disk.log(2, 3));
-        CHECK.due("entries", 3, disk.log(2, 0));
+        return disk;
     }
 
-    private static void refusesWrongInput() {
-        LogDisk disk = new LogDisk(1, 16);
-        CHECK.illegalArgument("log -1", () -> disk.log(-1, 0));
-        CHECK.illegalArgument("log 4", () -> disk.log(4, 0));
-        CHECK.illegalArgument("log MAX", () -> disk.log(Integer.MAX_VALUE, 0));
-        CHECK.illegalArgument("what -1", () -> disk.log(0, -1));
-        CHECK.illegalArgument("what 4", () -> disk.log(0, 4));
+    private static void due(LogDisk disk, int what, String when, int want) {
+        CHECK.due("log(2, " + what + ") " + when, want, disk.log(2, what));
+    }
+
+    private static void eachChange(int what, int[] wants) {
+        due(new LogDisk(1, 16), what, "of an empty log", 0);
+        LogDisk disk = sixEntries();
+        due(disk, what, "of six entries", wants[0]);
+        disk.append(2, 1021, 0);
+        due(disk, what, "behind LARGE", wants[0]);
+        disk.thin(2, 2);
+        due(disk, what, "behind thinning", wants[1]);
+        disk.retain(2, 0);
+        due(disk, what, "behind retention", wants[2]);
+        disk.crash(1);
+        disk.append(2, 96, 0);
+        disk.recover();
+        due(disk, what, "behind a cut before the head", wants[2]);
+        disk.crash(2);
+        disk.append(2, 96, 0);
+        disk.recover();
+        due(disk, what, "behind a cut at the head", wants[3]);
+    }
+
+    private static void howManyEntries() {
+        CHECK.sentence("what = 0 how many entries");
+        eachChange(0, new int[] {6, 4, 2, 3});
+    }
+
+    private static void howManySegments() {
+        CHECK.sentence("1 segments");
+        eachChange(1, new int[] {3, 2, 1, 2});
+    }
+
+    private static void bytesThatEntriesTake() {
+        CHECK.sentence("2 bytes that entries take");
+        eachChange(2, new int[] {3072, 2048, 1024, 1124});
+    }
+
+    private static void howManyEverCame() {
+        CHECK.sentence("3 how many entries ever came");
+        eachChange(3, new int[] {6, 6, 6, 7});
+        LogDisk full = new LogDisk(1, 16);
+        for (int i = 0; i < 20; i++) {
+            full.append(2, 1020, i);
+        }
+        due(full, 3, "where only twelve had room", 12);
+    }
+
+    private static void whatIsNoneOfThese() {
+        CHECK.sentence("Illegal argument: also if what is none of these");
+        LogDisk disk = sixEntries();
+        for (int what : new int[] {Integer.MIN_VALUE, -1, 4, 5, Integer.MAX_VALUE}) {
+            CHECK.illegalArgument("what " + what, () -> disk.log(2, what));
+        }
+    }
+
+    private static void noSuchLog() {
+        CHECK.sentence("Illegal argument");
+        LogDisk disk = sixEntries();
+        for (int log : new int[] {Integer.MIN_VALUE, -1, 4, Integer.MAX_VALUE}) {
+            for (int what = 0; what < 4; what++) {
+                int asked = what;
+                CHECK.illegalArgument("log(" + log + ", " + what + ")", () -> disk.log(log, asked));
+            }
+        }
+    }
+
+    private static void whileDown() {
+        CHECK.sentence("illegal state");
+        LogDisk disk = sixEntries();
         disk.crash(0);
         for (int what = 0; what < 4; what++) {
             int asked = what;
-            CHECK.illegalState("while down", () -> disk.log(0, asked));
+            CHECK.illegalState("while down", () -> disk.log(2, asked));
         }
+        CHECK.illegalState("of an empty log while down", () -> disk.log(0, 0));
         CHECK.illegalArgument("log 4 while down", () -> disk.log(4, 0));
+        CHECK.illegalArgument("what -1 while down", () -> disk.log(0, -1));
         CHECK.illegalArgument("what 4 while down", () -> disk.log(0, 4));
     }
 }

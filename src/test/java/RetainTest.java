@@ -7,7 +7,9 @@ public final class RetainTest {
         keepsTheRestAsItWas();
         keepsTheOpenSegment();
         isCutThoughItIsThere();
-        refusesWrongInput();
+        bytesBelow0();
+        noSuchLog();
+        whileDown();
         CHECK.end();
     }
 
@@ -20,6 +22,7 @@ public final class RetainTest {
     }
 
     private static void letsGoWhileEnoughStays() {
+        CHECK.sentence("Retention: how many segments went");
         int[][] bytesAndGone = {
             {Integer.MAX_VALUE, 0}, {3001, 0}, {3000, 1}, {2001, 1}, {2000, 2}, {1001, 2}, {1000, 3}, {1, 3}, {0, 3},
         };
@@ -39,6 +42,7 @@ public final class RetainTest {
     }
 
     private static void keepsTheRestAsItWas() {
+        CHECK.sentence("Retention");
         LogDisk disk = fourSegmentsOf100();
         disk.append(0, 10, 99);
         disk.retain(1, 1500);
@@ -56,6 +60,7 @@ public final class RetainTest {
     }
 
     private static void keepsTheOpenSegment() {
+        CHECK.sentence("how many segments went");
         LogDisk disk = new LogDisk(1, 32);
         CHECK.due("an empty log", 0, disk.retain(0, 0));
         disk.append(0, 10, 0);
@@ -68,6 +73,7 @@ public final class RetainTest {
     }
 
     private static void isCutThoughItIsThere() {
+        CHECK.sentence("CUT");
         LogDisk disk = fourSegmentsOf100();
         disk.crash(1);
         CHECK.due("with power for its head", LogDisk.CUT, disk.retain(1, 0));
@@ -77,14 +83,32 @@ public final class RetainTest {
         CHECK.due("first byte", 30, disk.byteAt(1, 0, 0));
     }
 
-    private static void refusesWrongInput() {
+    private static void bytesBelow0() {
+        CHECK.sentence("Illegal argument: bytes are below 0");
         LogDisk disk = fourSegmentsOf100();
-        CHECK.illegalArgument("log -1", () -> disk.retain(-1, 0));
-        CHECK.illegalArgument("log 4", () -> disk.retain(4, 0));
         CHECK.illegalArgument("bytes -1", () -> disk.retain(1, -1));
         CHECK.illegalArgument("bytes MIN", () -> disk.retain(1, Integer.MIN_VALUE));
+        CHECK.illegalArgument("bytes -1 of an empty log", () -> disk.retain(0, -1));
+        CHECK.due("segments", 4, disk.log(1, 1));
+        CHECK.due("bytes MAX", 0, disk.retain(1, Integer.MAX_VALUE));
+        CHECK.due("bytes 0", 3, disk.retain(1, 0));
+    }
+
+    private static void noSuchLog() {
+        CHECK.sentence("Illegal argument");
+        LogDisk disk = fourSegmentsOf100();
+        for (int log : new int[] {Integer.MIN_VALUE, -1, 4, Integer.MAX_VALUE}) {
+            CHECK.illegalArgument("log " + log, () -> disk.retain(log, 0));
+        }
+        CHECK.due("recover()", 40, disk.recover());
+    }
+
+    private static void whileDown() {
+        CHECK.sentence("illegal state");
+        LogDisk disk = fourSegmentsOf100();
         disk.crash(0);
         CHECK.illegalState("while down", () -> disk.retain(1, 0));
+        CHECK.illegalState("of an empty log while down", () -> disk.retain(0, 0));
         CHECK.illegalArgument("log 4 while down", () -> disk.retain(4, 0));
         CHECK.illegalArgument("bytes -1 while down", () -> disk.retain(1, -1));
         CHECK.due("recover()", 40, disk.recover());

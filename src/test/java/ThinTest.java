@@ -11,7 +11,9 @@ public final class ThinTest {
         isFull();
         thinsLogOf60();
         isCut();
-        refusesWrongInput();
+        kFrom1To1000();
+        noSuchLog();
+        whileDown();
         CHECK.end();
     }
 
@@ -25,6 +27,7 @@ public final class ThinTest {
     }
 
     private static void letsEveryKthGo() {
+        CHECK.sentence("Thinning: how many entries went");
         int[][] kGoneAndFirst = {{1, 9, 9}, {2, 5, 1}, {3, 3, 1}, {4, 3, 1}, {8, 2, 1}, {9, 1, 1}, {1000, 1, 1}};
         for (int[] row : kGoneAndFirst) {
             LogDisk disk = elevenEntries(40);
@@ -45,6 +48,7 @@ public final class ThinTest {
     }
 
     private static void packsAnew() {
+        CHECK.sentence("Thinning");
         LogDisk disk = elevenEntries(40);
         int writes = disk.writes();
         disk.thin(0, 4);
@@ -66,6 +70,7 @@ public final class ThinTest {
     }
 
     private static void writesOnlyFilledBlocks() {
+        CHECK.sentence("Thinning");
         LogDisk disk = new LogDisk(3, 64);
         int[] sizes = {10, 2044, 1020, 1020, 2044, 1020, 3068};
         for (int i = 0; i < sizes.length; i++) {
@@ -82,6 +87,7 @@ public final class ThinTest {
     }
 
     private static void leavesEmptyAndOpenOnesAlone() {
+        CHECK.sentence("how many entries went");
         LogDisk disk = new LogDisk(2, 40);
         CHECK.due("an empty log", 0, disk.thin(2, 1));
         disk.append(2, 100, 0);
@@ -94,6 +100,7 @@ public final class ThinTest {
     }
 
     private static void liesBesideTheOldOnes() {
+        CHECK.sentence("Thinning");
         LogDisk disk = new LogDisk(1, 40);
         disk.append(1, 1020, 50);
         disk.append(0, 1020, 0);
@@ -111,6 +118,7 @@ public final class ThinTest {
     }
 
     private static void isFull() {
+        CHECK.sentence("FULL");
         LogDisk disk = new LogDisk(1, 16);
         for (int i = 0; i < 9; i++) {
             disk.append(0, 1020, i);
@@ -129,6 +137,7 @@ public final class ThinTest {
     }
 
     private static void thinsLogOf60() {
+        CHECK.sentence("how many entries went");
         LogDisk disk = new LogDisk(1, 256);
         for (int i = 0; i < 60; i++) {
             disk.append(0, 1020, i);
@@ -141,6 +150,7 @@ public final class ThinTest {
     }
 
     private static void isCut() {
+        CHECK.sentence("CUT");
         for (int power = 1; power <= 4; power++) {
             LogDisk disk = elevenEntries(40);
             int writes = disk.writes();
@@ -156,17 +166,37 @@ public final class ThinTest {
         }
     }
 
-    private static void refusesWrongInput() {
+    private static void kFrom1To1000() {
+        CHECK.sentence("Illegal argument: k is not 1 .. 1000");
         LogDisk disk = elevenEntries(40);
-        CHECK.illegalArgument("log -1", () -> disk.thin(-1, 1));
-        CHECK.illegalArgument("log 4", () -> disk.thin(4, 1));
-        CHECK.illegalArgument("k 0", () -> disk.thin(0, 0));
-        CHECK.illegalArgument("k -1", () -> disk.thin(0, -1));
-        CHECK.illegalArgument("k 1001", () -> disk.thin(0, 1001));
+        for (int k : new int[] {Integer.MIN_VALUE, -1, 0, 1001, 1002, Integer.MAX_VALUE}) {
+            CHECK.illegalArgument("k " + k, () -> disk.thin(0, k));
+            CHECK.illegalArgument("k " + k + " of an empty log", () -> disk.thin(1, k));
+        }
+        CHECK.due("entries", 11, disk.log(0, 0));
+        CHECK.due("k 1000", 1, disk.thin(0, 1000));
+        CHECK.due("k 999", 1, disk.thin(0, 999));
+        CHECK.due("k 1", 7, disk.thin(0, 1));
+    }
+
+    private static void noSuchLog() {
+        CHECK.sentence("Illegal argument");
+        LogDisk disk = elevenEntries(40);
+        for (int log : new int[] {Integer.MIN_VALUE, -1, 4, Integer.MAX_VALUE}) {
+            CHECK.illegalArgument("log " + log, () -> disk.thin(log, 1));
+        }
+        CHECK.due("recover()", 11, disk.recover());
+    }
+
+    private static void whileDown() {
+        CHECK.sentence("illegal state");
+        LogDisk disk = elevenEntries(40);
         disk.crash(0);
         CHECK.illegalState("while down", () -> disk.thin(0, 1));
+        CHECK.illegalState("of an empty log while down", () -> disk.thin(1, 1));
         CHECK.illegalArgument("log 4 while down", () -> disk.thin(4, 1));
         CHECK.illegalArgument("k 0 while down", () -> disk.thin(0, 0));
+        CHECK.illegalArgument("k 1001 while down", () -> disk.thin(0, 1001));
         CHECK.due("recover()", 11, disk.recover());
     }
 }
