@@ -62,7 +62,7 @@ public final class ByteAtTest {
     }
 
     private static void noSuchByte() {
-        CHECK.sentence("Illegal argument (there is no such byte)");
+        CHECK.sentence("Illegal argument");
         LogDisk disk = tenBytes();
         CHECK.due("the last byte", 12, disk.byteAt(0, 0, 9));
         for (int k : new int[] {Integer.MIN_VALUE, -1, 10, 11, 13, 14, Integer.MAX_VALUE}) {
@@ -78,7 +78,7 @@ public final class ByteAtTest {
     }
 
     private static void noSuchEntry() {
-        CHECK.sentence("Illegal argument (there is no such entry)");
+        CHECK.sentence("Illegal argument");
         LogDisk disk = tenBytes();
         CHECK.illegalArgument("entry 0 of none", () -> disk.byteAt(1, 0, 0));
         for (int i : new int[] {Integer.MIN_VALUE, -1, 1, 2, Integer.MAX_VALUE}) {
@@ -87,7 +87,7 @@ public final class ByteAtTest {
     }
 
     private static void noSuchLog() {
-        CHECK.sentence("Illegal argument (there is no such log)");
+        CHECK.sentence("Illegal argument");
         LogDisk disk = tenBytes();
         for (int log : new int[] {Integer.MIN_VALUE, -1, 4, Integer.MAX_VALUE}) {
             CHECK.illegalArgument("log " + log, () -> disk.byteAt(log, 0, 0));

@@ -15,7 +15,7 @@ public final class ConstantsTest {
     }
 
     private static void theirValues() {
-        CHECK.sentence("NONE = -1, FULL = -2, CUT = -3, LARGE = -5");
+        CHECK.sentence("The constants");
         CHECK.due("NONE", -1, LogDisk.NONE);
         CHECK.due("FULL", -2, LogDisk.FULL);
         CHECK.due("CUT", -3, LogDisk.CUT);

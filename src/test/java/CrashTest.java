@@ -29,7 +29,7 @@ public final class CrashTest {
     }
 
     private static void failsAtTheFirst() {
-        CHECK.sentence("when n more blocks were written (n = 1)");
+        CHECK.sentence("when n more blocks were written");
         LogDisk disk = new LogDisk(1, 16);
         disk.crash(1);
         CHECK.due("isDown() before a block", false, disk.isDown());
@@ -39,7 +39,7 @@ public final class CrashTest {
     }
 
     private static void failsAtTheFarthest() {
-        CHECK.sentence("when n more blocks were written (n = 1000)");
+        CHECK.sentence("when n more blocks were written");
         LogDisk disk = new LogDisk(16, 256);
         disk.crash(1000);
         for (int i = 0; i < 55; i++) {

@@ -9,7 +9,7 @@ public final class ExceptionsTest {
         noSuchLog();
         noSuchEntry();
         noSuchByte();
-        whatGoesCannotBeAsked();
+        whatWentCannotBeAsked();
         theDiskIsDown();
         thatIsNotAskedThen();
         butForLogNumbers();
@@ -105,21 +105,33 @@ public final class ExceptionsTest {
         CHECK.due("the only byte", 200, disk.byteAt(1, 0, 0));
     }
 
-    private static void whatGoesCannotBeAsked() {
+    private static void whatWentCannotBeAsked() {
         CHECK.sentence("there is no such log, entry or byte");
-        LogDisk retained = fourEntries();
-        retained.retain(0, 0);
-        CHECK.due("the last entry behind retention", 10, retained.entry(0, 0, 0));
-        CHECK.illegalArgument("entry behind it", () -> retained.entry(0, 1, 0));
-        LogDisk thinned = fourEntries();
-        thinned.thin(0, 1);
-        CHECK.due("the last entry behind thinning", 100, thinned.byteAt(0, thinned.log(0, 0) - 1, 0));
-        CHECK.illegalArgument("entry behind it", () -> thinned.entry(0, thinned.log(0, 0), 0));
-        LogDisk cut = fourEntries();
-        cut.crash(1);
-        cut.append(1, 5, 0);
-        cut.recover();
-        CHECK.illegalArgument("entry that was cut", () -> cut.entry(1, 1, 0));
+        LogDisk disk = new LogDisk(1, 64);
+        for (int round = 0; round < 6; round++) {
+            for (int i = 0; i < 9; i++) {
+                disk.append(0, 300, 10 * i);
+            }
+            behindTheLast(disk, 0, "append");
+            disk.thin(0, 3);
+            behindTheLast(disk, 0, "thinning");
+            disk.retain(0, 1000);
+            behindTheLast(disk, 0, "retention");
+            disk.crash(1);
+            disk.append(0, 300, 0);
+            disk.recover();
+            behindTheLast(disk, 0, "a cut");
+        }
+    }
+
+    private static void behindTheLast(LogDisk disk, int log, String behind) {
+        int entries = disk.log(log, 0);
+        CHECK.due("the last entry behind " + behind, 300, disk.entry(log, entries - 1, 0));
+        for (int i = entries; i < entries + 9; i++) {
+            int none = i;
+            CHECK.illegalArgument("entry behind " + behind, () -> disk.entry(log, none, 0));
+            CHECK.illegalArgument("byteAt behind " + behind, () -> disk.byteAt(log, none, 0));
+        }
     }
 
     private static void theDiskIsDown() {
